@@ -1,4 +1,5 @@
 import java.util.Arrays;
+import java.util.stream.IntStream;
 
 /** What the tests share: it prints every answer that is not the one that is due, and ends the test. */
 final class Check {
@@ -73,8 +74,26 @@ final class Check {
         return x;
     }
 
-    /** Numbers that are a point of no graph with n points. */
+    /** Numbers that are no point of a graph with n points; some would hit a true place if their products wrapped. */
     static int[] noPoints(int n) {
-        return new int[] {-1, n, n + 1, 63, 64, 199, 200, 201, 1 << 16, Integer.MIN_VALUE, Integer.MAX_VALUE};
+        return IntStream.of(-1, -2, -64, -200, -(1 << 30), Integer.MIN_VALUE, Integer.MIN_VALUE + 1,
+                        n, n + 1, 63, 64, 199, 200, 201, 256, 1 << 16, 1 << 30, (1 << 30) + 1,
+                        Integer.MAX_VALUE - 1, Integer.MAX_VALUE)
+                .filter(a -> a < 0 || a >= n)
+                .toArray();
+    }
+
+    /** Every answer that a graph of n points gives without being changed: n * n + 3 * n + 7 calls. */
+    static int[] looks(PointColours x, int n) {
+        IntStream.Builder seen = IntStream.builder();
+        for (int a = -1; a <= n; a++) {
+            seen.add(x.colour(a)).add(x.taken(a)).add(x.degree(a));
+        }
+        for (int a = 0; a < n; a++) {
+            for (int b = 0; b < n; b++) {
+                seen.add(x.joined(a, b) ? 1 : 0);
+            }
+        }
+        return seen.add(x.strays()).build().toArray();
     }
 }

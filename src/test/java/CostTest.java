@@ -1,9 +1,11 @@
-/** Promise 4: cost, and the choice by cost in giving colours. */
+/** Promise 4: cost, its sentence part by part, and the choice by cost in giving colours. */
 final class CostTest {
     private static final Check check = new Check();
 
     public static void main(String[] args) {
-        limits();
+        refusesWhatIsNoPoint();
+        refusesWhatIsNoCost();
+        costIsReplaced();
         cheapestGoesFirst();
         equalCostsGoByNumber();
         costIsForTheNeighbours();
@@ -15,16 +17,45 @@ final class CostTest {
         check.end();
     }
 
-    private static void limits() {
+    /** "false if there is none such". */
+    private static void refusesWhatIsNoPoint() {
+        for (int n : new int[] {1, 2, 64, 200}) {
+            PointColours x = Check.graph(n, 1);
+            check.due("cost(0, 1) of " + n, x.cost(0, 1), true);
+            check.due("cost(" + (n - 1) + ", 1) of " + n, x.cost(n - 1, 1), true);
+            for (int none : Check.noPoints(n)) {
+                check.due("cost(" + none + ", 0) of " + n, x.cost(none, 0), false);
+                check.due("cost(" + none + ", 1000000) of " + n, x.cost(none, 1000000), false);
+                check.due("cost(" + none + ", -1) of " + n, x.cost(none, -1), false);
+            }
+        }
+    }
+
+    /** "or c is no cost": the last that are costs and the first that are none. */
+    private static void refusesWhatIsNoCost() {
         PointColours x = Check.graph(2, 1);
         check.due("cost(0, 0)", x.cost(0, 0), true);
         check.due("cost(1, 1000000)", x.cost(1, 1000000), true);
-        for (int c : new int[] {-1, 1000001, Integer.MIN_VALUE, Integer.MAX_VALUE}) {
+        for (int c : new int[] {-1, 1000001, -1000000, Integer.MIN_VALUE, Integer.MIN_VALUE + 1,
+            Integer.MAX_VALUE}) {
             check.due("cost(0, " + c + ")", x.cost(0, c), false);
         }
-        for (int none : Check.noPoints(2)) {
-            check.due("cost(" + none + ", 1)", x.cost(none, 1), false);
-        }
+    }
+
+    /** "The cost of a point": only the newest counts, and the least and the largest are kept as they are. */
+    private static void costIsReplaced() {
+        PointColours x = Check.complete(2, 1);
+        x.cost(1, 999999);
+        x.cost(0, 1000000);
+        x.give();
+        check.order("with 1000000 against 999999", x, 1, 0);
+        x.cost(0, 999998);
+        x.give();
+        check.order("with 999998 against 999999", x, 0, 1);
+        x.cost(0, 1);
+        x.cost(1, 0);
+        x.give();
+        check.order("with 1 against 0", x, 1, 0);
     }
 
     private static void cheapestGoesFirst() {
@@ -109,12 +140,17 @@ final class CostTest {
         check.order("with few neighbours", x, 0, 1, 2);
     }
 
+    /** "No colours are given then, here as with the next two." (promise 3), even if the cost is as it was. */
     private static void dropsTheColours() {
         PointColours x = Check.graph(2, 1);
         x.give();
         check.due("cost(1, 0), as it was", x.cost(1, 0), true);
         check.colours("after cost", x, -1, -1);
         check.order("after cost", x, -1, -1);
+        x.give();
+        check.due("cost(0, 1000000)", x.cost(0, 1000000), true);
+        check.colours("after the largest cost", x, -1, -1);
+        check.order("after the largest cost", x, -1, -1);
     }
 
     private static void refusedCostChangesNothing() {
@@ -122,9 +158,16 @@ final class CostTest {
         x.cost(0, 3);
         x.cost(1, 2);
         x.give();
-        x.cost(0, -1);
-        x.cost(1, 1000001);
-        x.cost(2, 0);
+        int[] before = Check.looks(x, 2);
+        for (int c : new int[] {-1, 1000001, Integer.MIN_VALUE, Integer.MAX_VALUE}) {
+            x.cost(0, c);
+            x.cost(1, c);
+        }
+        for (int none : Check.noPoints(2)) {
+            x.cost(none, 0);
+            x.cost(none, 1000000);
+        }
+        check.due("looks after refused costs", Check.looks(x, 2), before);
         check.colours("after refused costs", x, 0, -1);
         check.order("after refused costs", x, 1, 0);
         x.give();

@@ -1,9 +1,11 @@
-/** Promise 5: wish, and the colours that wishes bring. */
+/** Promise 5: wish, its sentence part by part, and the colours that wishes bring. */
 final class WishTest {
     private static final Check check = new Check();
 
     public static void main(String[] args) {
-        refusals();
+        refusesWhatIsNoPoint();
+        wishForItselfIsNone();
+        wishForItselfWhenThereWasNone();
         wishIsMet();
         wishIsReplacedAndTakenBack();
         neighbourBarsTheWish();
@@ -16,15 +18,52 @@ final class WishTest {
         check.end();
     }
 
-    private static void refusals() {
-        PointColours x = Check.graph(3, 2);
-        for (int none : Check.noPoints(3)) {
-            check.due("wish(0, " + none + ")", x.wish(0, none), false);
-            check.due("wish(" + none + ", 0)", x.wish(none, 0), false);
-            check.due("wish(" + none + ", itself)", x.wish(none, none), false);
+    /** "false if one is none": the first, the second, or both. */
+    private static void refusesWhatIsNoPoint() {
+        for (int n : new int[] {1, 3, 64, 200}) {
+            PointColours x = Check.graph(n, 2);
+            check.due("wish(0, " + (n - 1) + ") of " + n, x.wish(0, n - 1), true);
+            check.due("wish(" + (n - 1) + ", 0) of " + n, x.wish(n - 1, 0), true);
+            for (int none : Check.noPoints(n)) {
+                check.due("wish(0, " + none + ") of " + n, x.wish(0, none), false);
+                check.due("wish(" + none + ", 0) of " + n, x.wish(none, 0), false);
+                check.due("wish(" + (n - 1) + ", " + none + ") of " + n, x.wish(n - 1, none), false);
+                check.due("wish(" + none + ", itself) of " + n, x.wish(none, none), false);
+                check.due("wish(" + none + ", -1) of " + n, x.wish(none, -1), false);
+            }
         }
-        check.due("wish(0, 2)", x.wish(0, 2), true);
-        check.due("wish(2, 2)", x.wish(2, 2), true);
+    }
+
+    /** "(itself: none)": it takes back the wish that there was, at both ends of the largest graph. */
+    private static void wishForItselfIsNone() {
+        PointColours x = Check.graph(200, 3, Check.edge(0, 198), Check.edge(0, 199), Check.edge(198, 199));
+        x.wish(197, 198);
+        x.wish(1, 0);
+        x.give();
+        check.due("colour(198)", x.colour(198), 1);
+        check.due("colour(197) with a wish", x.colour(197), 1);
+        check.due("colour(1) with a wish that comes later", x.colour(1), 0);
+        check.due("wish(197, 197)", x.wish(197, 197), true);
+        x.give();
+        check.due("colour(197) without a wish", x.colour(197), 0);
+        x.wish(0, 198);
+        check.due("wish(0, 0)", x.wish(0, 0), true);
+        x.give();
+        check.due("colour(0) without a wish", x.colour(0), 2);
+    }
+
+    /** "(itself: none)": true also if there was none to take back, and for the only point. */
+    private static void wishForItselfWhenThereWasNone() {
+        PointColours x = new PointColours();
+        check.due("wish(0, 0) of one point", x.wish(0, 0), true);
+        x.give();
+        check.colours("of one point", x, 0);
+        x = Check.graph(3, 2, Check.edge(1, 2));
+        for (int a = 0; a < 3; a++) {
+            check.due("wish(" + a + ", " + a + ")", x.wish(a, a), true);
+        }
+        check.due("give()", x.give(), 0);
+        check.colours("with all wishes for itself", x, 0, 1, 0);
     }
 
     private static void wishIsMet() {
@@ -90,6 +129,7 @@ final class WishTest {
         check.colours("with a chain of wishes", x, 2, 2, 2, 2, 1, 0);
     }
 
+    /** "No colours are given then, here as with the next two." (promise 3), even if the wish is as it was. */
     private static void dropsTheColours() {
         PointColours x = Check.graph(2, 1);
         x.give();
@@ -99,16 +139,23 @@ final class WishTest {
         x.give();
         check.due("wish(1, 1), as it was", x.wish(1, 1), true);
         check.colours("after wish for itself", x, -1, -1);
+        check.order("after wish for itself", x, -1, -1);
+        x.give();
+        check.due("wish(0, 1), as it was", x.wish(0, 1), true);
+        check.colours("after wish as it was", x, -1, -1);
     }
 
     private static void refusedWishChangesNothing() {
         PointColours x = Check.graph(4, 3, Check.edge(2, 3));
         x.wish(0, 2);
         x.give();
-        x.wish(0, 4);
-        x.wish(0, -1);
-        x.wish(4, 0);
-        x.wish(4, 4);
+        int[] before = Check.looks(x, 4);
+        for (int none : Check.noPoints(4)) {
+            x.wish(0, none);
+            x.wish(none, 0);
+            x.wish(none, none);
+        }
+        check.due("looks after refused wishes", Check.looks(x, 4), before);
         check.colours("after refused wishes", x, 1, 0, 1, 0);
         check.order("after refused wishes", x, 0, 1, 2, 3);
         x.give();
