@@ -24,6 +24,7 @@ final class LanguageTest {
         none("import", IMPORT.matcher(code), "java.util.Arrays");
         none("call of Arrays", ARRAYS_CALL.matcher(code), "fill");
         members();
+        names();
         check.end();
     }
 
@@ -39,7 +40,7 @@ final class LanguageTest {
         int fields = 0;
         for (Field field : PointColours.class.getDeclaredFields()) {
             if (Modifier.isStatic(field.getModifiers())) {
-                check.due("final is static " + field.getName(), Modifier.isFinal(field.getModifiers()), true);
+                check.due("final is the static " + field.getName(), Modifier.isFinal(field.getModifiers()), true);
             } else {
                 fields++;
             }
@@ -47,6 +48,20 @@ final class LanguageTest {
         check.due("at most twenty fields", fields <= 20, true);
         for (Method method : PointColours.class.getDeclaredMethods()) {
             check.due("at most seven parameters of " + method.getName(), method.getParameterCount() <= 7, true);
+        }
+    }
+
+    /** Rule 1: no private method bears the name of a public one, and no class stands inside that is seen outside. */
+    private static void names() {
+        for (Method hidden : PointColours.class.getDeclaredMethods()) {
+            for (Method shown : PointColours.class.getMethods()) {
+                boolean alike = Modifier.isPrivate(hidden.getModifiers()) && hidden.getName().equals(shown.getName());
+                check.due("a private method is called " + hidden.getName() + " too", alike, false);
+            }
+        }
+        for (Class<?> inside : PointColours.class.getDeclaredClasses()) {
+            check.due("public is " + inside.getName(), Modifier.isPublic(inside.getModifiers()), false);
+            check.due("static is " + inside.getName(), Modifier.isStatic(inside.getModifiers()), true);
         }
     }
 }
